@@ -923,39 +923,32 @@ public final class CollarNames {
             number = 0;
         }
 
+        /** Numbers stop counting at 1000, which none may be, so that long ones can't wrap around. */
         void step() {
             start = behind;
             while (start < length && bytes[start] == ' ') {
                 start++;
             }
             behind = start;
-            if (start >= length) {
-                token = END;
-            } else if (isLetter(bytes[start])) {
-                stepWord();
-            } else if (isDigit(bytes[start])) {
-                stepNumber();
-            } else {
-                token = bytes[start] == ';' ? SIGN : STRANGE;
-                behind++;
-            }
-        }
-
-        void stepWord() {
-            token = WORD;
-            while (behind < length && isLetter(bytes[behind])) {
-                behind++;
-            }
-        }
-
-        /** Stops counting at 1000, which no number may be, so that long ones can't wrap around. */
-        void stepNumber() {
-            token = NUMBER;
             number = 0;
-            while (behind < length && isDigit(bytes[behind])) {
-                number = Math.min(1000, number * 10 + bytes[behind] - '0');
+            token = start < length ? tokenOf(bytes[start]) : END;
+            int last = token == SIGN || token == STRANGE ? start + 1 : length;
+            while (behind < last && tokenOf(bytes[behind]) == token) {
+                if (token == NUMBER) {
+                    number = Math.min(1000, number * 10 + bytes[behind] - '0');
+                }
                 behind++;
             }
+        }
+
+        static int tokenOf(int oneByte) {
+            if (oneByte >= 'a' && oneByte <= 'z') {
+                return WORD;
+            }
+            if (oneByte >= '0' && oneByte <= '9') {
+                return NUMBER;
+            }
+            return oneByte == ';' ? SIGN : STRANGE;
         }
 
         boolean isAtWord(String word) {
@@ -972,14 +965,6 @@ public final class CollarNames {
 
         boolean isAtNumber(int least, int most) {
             return token == NUMBER && isWithin(number, least, most);
-        }
-
-        static boolean isLetter(int oneByte) {
-            return isWithin(oneByte, 'a', 'z');
-        }
-
-        static boolean isDigit(int oneByte) {
-            return isWithin(oneByte, '0', '9');
         }
     }
 

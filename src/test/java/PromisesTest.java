@@ -4,6 +4,7 @@ public final class PromisesTest {
   private static final long FULL = -1000000002L;
   private static final long KIND = -1000000003L;
   private static final long NONE = -1000000004L;
+  private static final long STATE = -1000000005L;
   private static final long MISSING = -1000000006L;
   private static final long SIZE = -1000000007L;
   private static final int GUEST = 0, MINDER = 1, VAGUE = 2, DEAF = 3, DAUGHTER = 4, MAGPIE = 5;
@@ -222,6 +223,16 @@ public final class PromisesTest {
     }
   }
 
+  /** w is its own and others' together. */
+  private static void wouldWithBoth() {
+    CollarNames x = people(VAGUE, GUEST);
+    x.garment(0, SEWN);
+    x.garment(1, SEWN);
+    x.garment(1, SEWN);
+    x.sew(1, 3, 0);
+    due(7, "would(0, 2, 1) with one of each", x.would(0, 2, 1), 0);
+  }
+
   private static void turnAndAs() {
     boolean[][] under = {
         {true, false, false, false, false, false},
@@ -340,6 +351,21 @@ public final class PromisesTest {
     due(13, "now(0)", x.now(0), 1);
     due(13, "weeks(60)", x.weeks(60), x.now(3));
     due(13, "now(0)", x.now(0), 61);
+  }
+
+  /** Only reached by more calls than are promised, but the program keeps to it all the same. */
+  private static void lastWeek() {
+    CollarNames x = people(GUEST);
+    for (int i = 0; i < 1666; i++) x.weeks(60);
+    due(13, "now(0)", x.now(0), 99960);
+    due(13, "weeks(40)", x.weeks(40), STATE);
+    due(13, "weeks(61)", x.weeks(61), BEYOND);
+    due(13, "now(0)", x.now(0), 99960);
+    due(13, "weeks(39)", x.weeks(39), 0);
+    due(13, "weeks(1)", x.weeks(1), STATE);
+    due(13, "then(0, 100)", x.then(0, 100), 1000);
+    due(13, "now(0)", x.now(0), 99999);
+    due(37, "status(4)", x.status(4), 2);
   }
 
   /** What a week does, in its order. */
@@ -580,6 +606,7 @@ public final class PromisesTest {
     due(19, "kind(1, 2): none of its own", y.kind(1, 2), GUEST);
     int[][] bad = {{2, 1}, {-1, 1}, {0, 0}, {0, 61}, {0, -1}};
     for (int[] b : bad) due(19, "kind(" + b[0] + ", " + b[1] + ")", y.kind(b[0], b[1]), BEYOND);
+    due(19, "kind(0, 60)", y.kind(0, 60), bestKind(y, 0, 60));
     for (int n = 1; n <= 60; n += 7) {
       CollarNames w = ward();
       for (int p = 0; p < 6; p++) due(19, "kind(" + p + ", " + n + ")", w.kind(p, n), bestKind(w, p, n));
@@ -748,6 +775,7 @@ public final class PromisesTest {
     same(26, "with", x.garmentOf(0, 3) + " " + x.garmentOf(1, 3) + " " + x.garmentOf(2, 3) + " " + x.garmentOf(3, 3), "0 1 -1 -1");
     due(26, "now(1)", x.now(1), 90);
     due(26, "now(4)", x.now(4), 31);
+    due(26, "of(5, 3)", x.of(5, 3), 1);
     tape(x, "sewn 0;sewn 0;sewn 0;sewn 0;sewn 0;sewn 0;sewn 0");
     String before = "" + x.count(1) + x.now(3);
     due(26, "home(): an 11th", x.home(), -1 - 42);
@@ -762,7 +790,31 @@ public final class PromisesTest {
     due(26, "status(-1)", x.status(-1), 0);
   }
 
+  /** A token at the tape's end ends there: at its 120th byte, and before what an earlier text left. */
+  private static void homeAtTheEnd() {
+    String[] ends = {"guest", "guest band 1", " ", ";", "dies 0"};
+    int[] want = {2, 2, 1, -121, 2};
+    for (int i = 0; i < ends.length; i++) {
+      CollarNames x = new CollarNames();
+      StringBuilder text = new StringBuilder(i == 2 || i == 3 ? "guest" : "guest;");
+      while (text.length() + ends[i].length() < 120) text.append(' ');
+      tape(x, text.append(ends[i]).toString());
+      due(26, "count(2)", x.count(2), 120);
+      due(26, "home() of 120 bytes with <" + ends[i] + ">", x.home(), want[i]);
+    }
+    CollarNames y = new CollarNames();
+    String[][] pairs = {{"heat 305", "heat 30"}, {"guests", "guest"}, {"heat 30;", "heat 31"}, {"heat 32   X", "heat 32 "}};
+    for (String[] pair : pairs) {
+      tape(y, pair[0]);
+      y.wipe();
+      tape(y, pair[1]);
+      due(26, "home() of <" + pair[1] + "> after <" + pair[0] + ">", y.home(), 1);
+    }
+  }
+
   private static void homeFaults() {
+    fault(0, "xuest", 0);
+    fault(0, "guesx", 0);
     fault(0, "", 0);
     fault(0, "   ", 3);
     fault(0, ";", 0);
@@ -833,9 +885,11 @@ public final class PromisesTest {
     due(27, "sheet(0, 0, 40)", x.sheet(0, 0, 40), 0);
     due(27, "write(0, 0, 0)", x.write(0, 0, 0), MISSING);
     due(27, "sheet(0, 16, 40)", x.sheet(0, 16, 40), 40);
-    due(27, "write(0, 39, 5)", x.write(0, 39, 5), 0);
+    for (int i = 0; i < 40; i++) due(27, "write(0, " + i + ", 5)", x.write(0, i, 5), 0);
     due(27, "sheet(0, 16, 40)", x.sheet(0, 16, 40), 40);
-    due(27, "write(0, 39, 5): all 0 again", x.write(0, 39, 5), 0);
+    for (int i = 0; i < 40; i++) due(27, "write(0, " + i + ", 6): all 0 again", x.write(0, i, 6), 0);
+    due(27, "sheet(0, 8, 3)", x.sheet(0, 8, 3), 3);
+    due(27, "write(0, 3, 0)", x.write(0, 3, 0), BEYOND);
   }
 
   private static void write() {
@@ -1075,11 +1129,13 @@ public final class PromisesTest {
     of();
     set();
     would();
+    wouldWithBoth();
     turnAndAs();
     garment();
     garmentOf();
     sew();
     weeks();
+    lastWeek();
     oneWeek();
     table();
     contentHeldBelow();
@@ -1096,6 +1152,7 @@ public final class PromisesTest {
     best();
     feedAndWipe();
     home();
+    homeAtTheEnd();
     homeFaults();
     sheets();
     write();
