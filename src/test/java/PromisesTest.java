@@ -814,6 +814,13 @@ public final class PromisesTest {
 
   private static void homeFaults() {
     fault(0, "xuest", 0);
+    fault(0, "guestz", 0);
+    fault(0, "guesta", 0);
+    fault(0, "guest`", 5);
+    fault(0, "guest{", 5);
+    fault(1, "heat 30/", 7);
+    fault(1, "heat 30:", 7);
+    fault(1, "heat 309", 5);
     fault(0, "guesx", 0);
     fault(0, "", 0);
     fault(0, "   ", 3);
