@@ -35,6 +35,10 @@ public final class EdgesOfAheadTest {
         comes(0, 0) = 0 | comes(0, 1) = 100 | sew(0, 2, 79) | comes(0, 1) = 98 | sew(0, 2, 81) | comes(0, 1) = 100
         sew(0, 2, 82) | comes(0, 1) = NONE | sew(0, 3, 1) | comes(0, 1) = 0 | sew(0, 3, -1) | comes(0, 0) = 2
         """);
+    T.run("17: In how many WEEKS (0 to 100): in the 99th, and in the 101st", late + """
+        weeks(1) | sew(0, 2, 80) | comes(0, 1) = 99 | sew(0, 2, 81) | comes(0, 1) = NONE | on(0, 100, 1) = -1
+        weeks(1) | on(0, 100, 1) = 1 | comes(0, 1) = 100
+        """);
     T.run("17: NONE", "person(0) | person(0) | garment(0, 0) | comes(0, 1) = NONE | sew(0, 2, 0) | sew(0, 3, -1) | comes(0, 0) = NONE");
   }
 
@@ -65,6 +69,16 @@ public final class EdgesOfAheadTest {
         """);
     // Two of name 0 on the heap: one minder takes both, one vague but the first; a guest none.
     T.run("19: most", "person(0) | garment(0, 0) | garment(0, 0) | sew(0, 3, -1) | sew(1, 3, -1) | sew(0, 2, 0) | sew(1, 2, 0) | kind(0, 2) = 1");
+    // Two pale ones on the heap: all but one vague take both, and lose both to person 0; one vague has the second yet.
+    T.run("19: VAGUE", """
+        4 x person(1) | weeks(1) | garment(3, 0) | garment(3, 0) | sew(0, 2, 39) | sew(1, 2, 37) | sew(0, 3, -1) | sew(1, 3, -1)
+        kind(3, 1) = 0 | kind(3, 2) = 0 | kind(3, 3) = 2 | kind(3, 4) = 0
+        """);
+    // One deaf keeps 70 of person 0, who is vague and so takes garment 2 for good; else that takes garment 0 when it is pale.
+    T.run("19: DEAF", """
+        person(2) | person(0) | person(0) | garment(1, 0) | sew(0, 2, 27) | garment(0, 2) | sew(1, 2, 80) | sew(1, 3, 1)
+        garment(2, 0) | sew(2, 2, 0) | sew(2, 3, -1) | kind(1, 7) = 0 | kind(1, 8) = 3
+        """);
     T.run("19: one that is GONE takes none", "person(0) | garment(0, 0) | sew(0, 3, -1) | sew(0, 2, 0) | set(0, 3, 1) | kind(0, 2) = 0");
   }
 
@@ -105,6 +119,15 @@ public final class EdgesOfAheadTest {
         garment(0, 0) | sew(1, 3, 4) | teach(1) = 4 | garment(0, 0) | sew(2, 3, 5) | teach(1) = 5 | of(5, 0) = 2
         set(5, 3, 1) | teach(1) = 4 | set(4, 3, 1) | teach(1) = 0 | teach(0) = BEYOND | teach(61) = BEYOND
         """);
+    // 40 that is left is read for person 0, its owner; neither one vague nor a guest would hand it in.
+    T.run("22: a MINDER, who gives back pale ones too", """
+        person(0) | person(2) | person(0) | garment(0, 0) | sew(0, 2, 41) | sew(0, 3, 1) | teach(1) = 1 | sew(0, 3, 2) | teach(1) = 2 | teach(60) = 0
+        """);
+    // Two of person 3 are read for it while 60 is left, which is for two weeks; one of person 0 for longer.
+    T.run("22: n WEEKS AHEAD", """
+        person(0) | person(2) | person(2) | person(0) | garment(0, 0) | sew(0, 3, 1) | garment(3, 0) | garment(3, 0) | sew(1, 3, 2) | sew(2, 3, 2)
+        sew(1, 2, 62) | sew(2, 2, 62) | teach(1) = 2 | teach(2) = 2 | teach(3) = 1
+        """);
     T.run("22: of all PEOPLE; NONE: nobody is there", """
         teach(1) = NONE | person(0) | teach(1) = 0 | set(0, 3, 1) | teach(1) = 0 | person(0) | teach(1) = 0
         """);
@@ -115,6 +138,7 @@ public final class EdgesOfAheadTest {
         """);
     T.run("23: n WEEKS (0 to 100) AHEAD", """
         person(0) | person(4) | set(0, 2, 199) | best(99) = 0 | best(100) = 1 | set(0, 2, 200) | best(100) = 0
+        turn(0, 4) | turn(1, 0) | set(0, 2, 0) | set(1, 2, 10) | best(4) = 1 | best(5) = 0 | best(6) = 0 | turn(0, 0) | turn(1, 4)
         set(0, 2, 999) | set(1, 2, 990) | best(4) = 0 | best(5) = 0 | best(100) = 0
         """);
     T.run("23: of all PEOPLE; NONE: nobody is there", """

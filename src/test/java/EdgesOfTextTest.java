@@ -203,6 +203,25 @@ public final class EdgesOfTextTest {
     fault("a byte that begins no TOKEN behind it all", "person(0)", odd + "?", 20);
   }
 
+  /** Each letter of each word counts, and so does how long it is. */
+  private static void letters() {
+    String[] texts = {"guest", "minder", "vague", "deaf", "daughter", "magpie", "sewn 0", "ironed 0", "pen 0", "heat 30", "dies 0", "guest band 1",
+        "pen 0 name 5", "pen 0 heap"};
+    for (String text : texts) {
+      for (int i = 0; i < text.length(); i++) {
+        char c = text.charAt(i);
+        if (c < 'a' || c > 'z') continue;
+        int start = text.lastIndexOf(' ', i) + 1;
+        String before = text.substring(0, i);
+        String behind = text.substring(i + 1);
+        fault("another WORD", "person(0)", before + (c == 'a' ? 'z' : 'a') + behind, start);
+        fault("another WORD", "person(0)", before + c + c + behind, start);
+        fault("another WORD", "person(0)", before + behind, start);
+        fault("letters a to z: none of A to Z", "person(0)", before + Character.toUpperCase(c) + behind, start);
+      }
+    }
+  }
+
   /** Each byte there is, as an item's first, right behind a word, and right behind a number. */
   private static void bytes() {
     for (int b = 0; b <= 255; b++) {
@@ -238,6 +257,7 @@ public final class EdgesOfTextTest {
     marks();
     heatAndDies();
     tokens();
+    letters();
     bytes();
     items();
     T.end();

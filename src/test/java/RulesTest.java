@@ -1,3 +1,14 @@
+import com.sun.source.tree.ClassTree;
+import com.sun.source.tree.CompilationUnitTree;
+import com.sun.source.tree.LambdaExpressionTree;
+import com.sun.source.tree.MemberReferenceTree;
+import com.sun.source.tree.MethodInvocationTree;
+import com.sun.source.tree.MethodTree;
+import com.sun.source.tree.NewClassTree;
+import com.sun.source.tree.Tree;
+import com.sun.source.util.JavacTask;
+import com.sun.source.util.TreePathScanner;
+import com.sun.source.util.Trees;
 import java.io.IOException;
 import java.lang.reflect.Field;
 import java.lang.reflect.Method;
@@ -5,11 +16,19 @@ import java.lang.reflect.Modifier;
 import java.nio.file.Files;
 import java.nio.file.Path;
 import java.util.Arrays;
+import java.util.HashMap;
 import java.util.HashSet;
+import java.util.LinkedHashSet;
+import java.util.List;
+import java.util.Map;
 import java.util.Set;
 import java.util.TreeSet;
 import java.util.regex.Matcher;
 import java.util.regex.Pattern;
+import javax.lang.model.element.Element;
+import javax.tools.JavaCompiler;
+import javax.tools.StandardJavaFileManager;
+import javax.tools.ToolProvider;
 
 // The face of the class, and those rules of LANGUAGE.md that can be seen in its text or by reflection.
 public final class RulesTest {
@@ -25,6 +44,10 @@ public final class RulesTest {
       "\\bthrow\\b", "\\bthrows\\b", "\\btry\\b", "\\bcatch\\b", "\\bsynchronized\\b", "\\bassert\\b", "->", "::", "\\bimport\\b",
       "\\bpackage\\b", "\\bprotected\\b", "\\brecord\\b", "\\bSystem\\.(?!arraycopy\\b)", "\\bThread\\b", "\\w+Exact\\b",
       "\\bstatic\\s*\\{", "\\bhashCode\\b", "\\btoString\\b", "\\bequals\\b", "\\bObject\\b"};
+  /** Rule 4, as far as the class uses it; another call of the library must be looked up there before it is added here. */
+  private static final Set<String> LIBRARY = Set.of("String.length", "String.charAt", "Math.max", "Math.min", "Integer.bitCount",
+      "System.arraycopy");
+  private static final int DEEPEST = 8;
   private static int wrong = 0;
 
   private static void must(boolean holds, String what) {
@@ -99,10 +122,87 @@ public final class RulesTest {
     }
   }
 
+  /** What the class's methods call, by the compiler's own reading of it. */
+  private static final class Calls extends TreePathScanner<Void, Element> {
+    final Trees trees;
+    final Map<Element, Set<Element>> own = new HashMap<>();
+
+    Calls(Trees trees) {
+      this.trees = trees;
+    }
+
+    @Override public Void visitMethod(MethodTree tree, Element in) {
+      Element method = trees.getElement(getCurrentPath());
+      own.computeIfAbsent(method, m -> new LinkedHashSet<>());
+      return super.visitMethod(tree, method);
+    }
+
+    @Override public Void visitMethodInvocation(MethodInvocationTree tree, Element in) {
+      calls(in, trees.getElement(getCurrentPath()));
+      return super.visitMethodInvocation(tree, in);
+    }
+
+    @Override public Void visitNewClass(NewClassTree tree, Element in) {
+      must(tree.getClassBody() == null, "an anonymous class: " + tree);
+      calls(in, trees.getElement(getCurrentPath()));
+      return super.visitNewClass(tree, in);
+    }
+
+    @Override public Void visitClass(ClassTree tree, Element in) {
+      must(in == null, "a local class: " + tree.getSimpleName());
+      return super.visitClass(tree, in);
+    }
+
+    @Override public Void visitLambdaExpression(LambdaExpressionTree tree, Element in) {
+      must(false, "a lambda: " + tree);
+      return super.visitLambdaExpression(tree, in);
+    }
+
+    @Override public Void visitMemberReference(MemberReferenceTree tree, Element in) {
+      must(false, "a method reference: " + tree);
+      return super.visitMemberReference(tree, in);
+    }
+
+    private void calls(Element from, Element to) {
+      String name = to.getEnclosingElement().getSimpleName() + "." + to.getSimpleName();
+      boolean isOwn = to.getEnclosingElement().toString().startsWith("CollarNames");
+      must(isOwn || LIBRARY.contains(name) || name.equals("Object.<init>"), "a call that rule 4 may not have: " + name);
+      if (isOwn && from != null) own.computeIfAbsent(from, m -> new LinkedHashSet<>()).add(to);
+    }
+
+    /** How many calls stand open at once, this one among them; the class has no recursion, so one is a fault here. */
+    int depth(Element method, Set<Element> open) {
+      must(open.add(method), "a recursion through " + method);
+      int most = 0;
+      if (open.size() <= 40) {
+        for (Element called : own.getOrDefault(method, Set.of())) most = Math.max(most, depth(called, new HashSet<>(open)));
+      }
+      return 1 + most;
+    }
+  }
+
+  private static void calls() throws IOException {
+    JavaCompiler compiler = ToolProvider.getSystemJavaCompiler();
+    try (StandardJavaFileManager files = compiler.getStandardFileManager(null, null, null)) {
+      JavacTask task = (JavacTask) compiler.getTask(null, files, null, List.of("-proc:none"), null,
+          files.getJavaFileObjects("src/main/java/CollarNames.java"));
+      Iterable<? extends CompilationUnitTree> units = task.parse();
+      task.analyze();
+      Calls calls = new Calls(Trees.instance(task));
+      for (Tree unit : units) calls.scan(unit, null);
+      must(calls.own.size() > FACE.length, "no methods were read");
+      for (Element method : calls.own.keySet()) {
+        int depth = calls.depth(method, new HashSet<>());
+        must(depth <= DEEPEST, method + " goes " + depth + " calls deep");
+      }
+    }
+  }
+
   public static void main(String[] args) throws IOException {
     face();
     classes();
     text();
+    calls();
     System.out.println(wrong == 0 ? "the rules are kept" : wrong + " rules are broken");
     if (wrong != 0) System.exit(1);
   }
