@@ -53,6 +53,10 @@ public final class EdgesOfAheadTest {
         weeks(1) | sew(0, 2, 29) | sew(0, 3, 3) | heat(59) | mark(0, 1) = 0 | heat(60) | mark(0, 1) = 1
         sew(0, 2, 30) | mark(0, 1) = 0 | sew(0, 2, 32) | heat(83) | mark(0, 1) = 2 | heat(77) | mark(0, 1) = 0 | sew(0, 1, 1) | mark(0, 1) = 0
         """);
+    // Sewn, 61 is RIGHT once and then stays with person 0; else it is pale in the 5th week, and its minder takes it in the 6th and 8th.
+    T.run("18: in most of them, be it by one", """
+        person(1) | person(1) | set(1, 1, 0) | garment(1, 0) | sew(0, 2, 61) | mark(0, 6) = 0 | mark(0, 7) = 0 | mark(0, 8) = 1 | mark(0, 10) = 1
+        """);
     // Sewn it is RIGHT in 39 weeks of 40; ironed in 3 and, from 59 on, with person 0.
     T.run("18: n WEEKS (1 to 40)", FOUR + "mark(0, 40) = 0 | mark(0, 41) = BEYOND | mark(0, 0) = BEYOND | mark(1, 1) = BEYOND");
     T.run("18: HEAT as it is", FOUR + "weeks(1) | sew(0, 2, 26) | sew(0, 3, 3) | heat(41) | mark(0, 1) = 1 | sew(0, 2, 31) | heat(90) | mark(0, 1) = 1");
@@ -78,6 +82,18 @@ public final class EdgesOfAheadTest {
     T.run("19: DEAF", """
         person(2) | person(0) | person(0) | garment(1, 0) | sew(0, 2, 27) | garment(0, 2) | sew(1, 2, 80) | sew(1, 3, 1)
         garment(2, 0) | sew(2, 2, 0) | sew(2, 3, -1) | kind(1, 7) = 0 | kind(1, 8) = 3
+        """);
+    // The second is name 0 on the heap, which a minder takes and a guest doesn't; the first is with either.
+    T.run("19: most, be it by one", "person(0) | garment(0, 0) | garment(0, 0) | sew(1, 3, -1) | sew(1, 2, 0) | kind(0, 1) = 0 | kind(0, 2) = 1");
+    // In the 1st week all kinds of person 2 take garment 0. Guests, minders and the deaf take 1 and 2, and lose both to
+    // person 0; one vague leaves 1 to person 3; one magpie takes 1, loses it to person 0, and leaves 2. In the 3rd week
+    // persons 0 and 1 have lost their own. Of one magpie: person 0 has 1, so person 1 takes 0, and 2 is left for it. Of one
+    // vague: persons 0 and 1 take 0 and 2. Of the others: 2 isn't on the heap, and person 1 takes 0.
+    T.run("19: MAGPIE", """
+        person(2) | person(2) | person(0) | person(5) | set(2, 1, 0) | set(3, 1, 2) | weeks(1)
+        garment(2, 0) | sew(0, 2, 10) | sew(0, 3, -1) | garment(2, 2) | sew(1, 2, 60) | sew(1, 3, -1) | garment(2, 0) | sew(2, 2, 30) | sew(2, 3, -1)
+        garment(0, 0) | sew(3, 2, 22) | garment(1, 0) | sew(4, 2, 22) | garment(3, 0)
+        kind(2, 1) = 0 | kind(2, 2) = 0 | kind(2, 3) = 5 | of(2, 0) = 0 | turn(2, 5) | on(2, 3, 1) = 2 | turn(2, 2) | on(2, 3, 1) = 1 | turn(2, 1) | on(2, 3, 1) = 0
         """);
     T.run("19: one that is GONE takes none", "person(0) | garment(0, 0) | sew(0, 3, -1) | sew(0, 2, 0) | set(0, 3, 1) | kind(0, 2) = 0");
   }

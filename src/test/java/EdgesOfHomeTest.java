@@ -215,6 +215,10 @@ public final class EdgesOfHomeTest {
         held(kind, minds, rows.toString());
       }
     }
+    T.run("MINDS: others' are others', be the OWNER's number less or greater", """
+        3 x person(1) | garment(0, 0) | garment(1, 0) | garment(2, 0) | sew(0, 3, 1) | of(1, 5) = 999 | sew(2, 3, 1) | of(1, 5) = 996
+        sew(0, 3, 2) | of(1, 5) = 999 | of(2, 5) = 997 | sew(1, 3, 2) | of(1, 5) = 997 | of(2, 5) = 994 | sew(1, 3, 0) | of(0, 5) = 997
+        """);
   }
 
   /** "CONTENT is what they MIND more (held)": to the edge, over it, and from the edge. */

@@ -222,6 +222,25 @@ public final class EdgesOfTextTest {
     }
   }
 
+  /** A word cut short is another one, though the rest of it lay behind it on the tape before. */
+  private static void afterLongerTexts() {
+    String[] texts = {"guest", "minder", "vague", "deaf", "daughter", "magpie", "sewn 0", "ironed 0", "pen 0", "heat 30", "dies 0", "guest band 1",
+        "pen 0 name 5", "pen 0 heap"};
+    for (String text : texts) {
+      for (int i = 1; i < text.length(); i++) {
+        if (text.charAt(i) < 'a' || text.charAt(i) > 'z' || text.charAt(i - 1) == ' ') continue;
+        int start = text.lastIndexOf(' ', i) + 1;
+        String cut = text.substring(0, i);
+        T.run("THE TAPE is empty then", "person(0) | tape \"" + text + "\" | home() = 1 | tape \"" + cut + "\" | home() = " + (-1 - start));
+        T.run("THE TAPE is empty", "person(0) | tape \"" + text + "\" | wipe() = " + text.length() + " | tape \"" + cut + "\" | home() = " + (-1 - start));
+      }
+    }
+    T.run("THE TAPE is empty: NUMBERS", """
+        person(0) | tape "heat 30" | home() = 1 | tape "heat 3" | home() = -6 | tape "pen 0 name 55 heap" | home() = 1 | tape "pen 0 name 5" | home() = 1
+        garmentOf(0, 2) = 55 | garmentOf(1, 2) = 5 | garmentOf(0, 3) = -1 | garmentOf(1, 3) = 0
+        """);
+  }
+
   /** Each byte there is, as an item's first, right behind a word, and right behind a number. */
   private static void bytes() {
     for (int b = 0; b <= 255; b++) {
@@ -258,6 +277,7 @@ public final class EdgesOfTextTest {
     heatAndDies();
     tokens();
     letters();
+    afterLongerTexts();
     bytes();
     items();
     T.end();
